@@ -1165,7 +1165,7 @@ public final class SteppingStones {
 
     /** Steps over stones and banks, counted from a bank. */
     private static final class Ways {
-        /** One more than a step can ever add up to, so slippery comes first and steps second. */
+        /** More than the steps of any way, so that slippery comes first and steps second. */
         static final int SLIP = 100;
 
         final int[] fromNear = new int[NODES];
@@ -1191,9 +1191,10 @@ public final class SteppingStones {
             int tail = 1;
             for (int head = 0; head < tail && head < NODES; head++) {
                 int from = queue[head];
+                int more = from >= 0 && from < NODES ? steps[from] + 1 : 0;
                 for (int to = 0; to < bound && to < NODES; to++) {
                     if (steps[to] == NONE && tail < NODES && ford.isStep(from, to, stride)) {
-                        steps[to] = steps[from] + 1;
+                        steps[to] = more;
                         queue[tail] = to;
                         tail++;
                     }
@@ -1227,14 +1228,20 @@ public final class SteppingStones {
             Arrays.fill(rows, 0);
             rows[NEAR] = 1;
             for (int head = 0; head < met && head < NODES; head++) {
-                int from = queue[head];
-                for (int to = 0; to < NODES; to++) {
-                    if (fromNear[to] == fromNear[from] + 1 && ford.isStep(from, to, stride)) {
-                        rows[to] = Math.min(MOST_ROWS, rows[to] + rows[from]);
-                    }
-                }
+                leadOn(ford, stride, queue[head]);
             }
             return rows[FAR];
+        }
+
+        void leadOn(Ford ford, int stride, int from) {
+            if (from < 0 || from >= NODES) {
+                return;
+            }
+            for (int to = 0; to < NODES; to++) {
+                if (fromNear[to] == fromNear[from] + 1 && ford.isStep(from, to, stride)) {
+                    rows[to] = Math.min(MOST_ROWS, rows[to] + rows[from]);
+                }
+            }
         }
 
         int stoneOfLeastRow(Ford ford, int stride, int fewest, int place) {
