@@ -132,6 +132,8 @@ public final class NightsTest {
         Due.is("e", ofLaw(f, "ue+1(i=7)", 107), 8);
         Due.is("e by o", ofLaw(f, "oe+1(i=7)", 207), 8);
         Due.is("n", ofLaw(f, "on(i=7)", 207), 8);
+        Due.is("n and no other letter", ofLaw(f, "on(1=1)", 207), 7);
+        Due.is("n in a test alone", ofLaw(f, "o1(n=2)", 203), 8);
         Due.is("g", ofLaw(f, "og+1(i=7)", 207), 7);
         f.take(10);
         Due.law(f, "u0(i=i)");

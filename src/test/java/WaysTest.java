@@ -192,6 +192,15 @@ public final class WaysTest {
         z.take(1);
         z.stone(6, 15, 16, 0);
         Due.is("two ways", z.hold(0), 2);
+        // Here a third way is found only by giving up a stone of an earlier one for good.
+        SteppingStones w = new SteppingStones();
+        int[][] places = {{3, 17}, {16, 15}, {15, 15}, {5, 10}, {10, 17}, {14, 8}, {10, 12}, {17, 20}, {8, 9}, {1, 16},
+            {19, 19}, {16, 5}, {21, 12}, {5, 8}, {21, 18}, {3, 3}, {7, 17}, {9, 13}, {2, 6}, {20, 9}, {8, 3}, {2, 2}};
+        for (int i = 0; i < places.length; i++) {
+            w.stone(i, places[i][0], places[i][1], 0);
+        }
+        w.person(0, 6);
+        Due.is("three ways", w.hold(0), 3);
     }
 
     private static void oneMore() {
@@ -213,6 +222,19 @@ public final class WaysTest {
         Due.is("empty x", empty.oneMore(0, 0), 0);
         Due.is("empty y", empty.oneMore(0, 1), 10);
         Due.is("empty, 10", empty.oneMore(1, 0), -2);
+        SteppingStones edge = new SteppingStones();
+        edge.person(0, 7);
+        edge.stone(0, 39, 7, 0);
+        Due.is("behind stone 0 alone, x", edge.oneMore(0, 0), 39);
+        Due.is("behind stone 0 alone, y", edge.oneMore(0, 1), 14);
+        edge.stone(0, 0, 14, 0);
+        Due.is("ahead of stone 0 alone, x", edge.oneMore(0, 0), 0);
+        Due.is("ahead of stone 0 alone, y", edge.oneMore(0, 1), 7);
+        edge.person(1, 19);
+        edge.take(0);
+        Due.is("Y 2 is the lowest by 19", edge.oneMore(1, 1), 2);
+        edge.person(1, 20);
+        Due.is("Y 1 is the lowest by 20", edge.oneMore(1, 1), 1);
     }
 
     private static void islands() {
@@ -253,6 +275,11 @@ public final class WaysTest {
         Due.is("no such one", f.key(5, 0), -1);
         Due.is("what 2", f.key(0, 2), -1);
         Due.is("nothing went under", f.count(2), 0);
+        SteppingStones last = new SteppingStones();
+        last.person(0, 11);
+        last.stone(39, 0, 10, 0);
+        Due.is("39 alone", last.key(0, 0), 1);
+        Due.is("39", last.key(0, 1), 39);
     }
 
     private static void meet() {
@@ -280,5 +307,12 @@ public final class WaysTest {
         Due.is("7, too", f.market(), 141);
         f.under(3, true);
         Due.is("0 no more", f.market(), 140);
+        SteppingStones yards = new SteppingStones();
+        yards.person(1, 1);
+        Due.is("none", yards.market(), 0);
+        for (int y = 1; y <= 20; y++) {
+            yards.stone(y, 5, y, 0);
+        }
+        Due.is("by a stride of 1", yards.market(), 2);
     }
 }
