@@ -46,6 +46,8 @@ public final class PuzzlesTest {
         Due.is("n 0", f.chalk(0, 100), -1);
         Due.is("n 8", f.chalk(8, 100), -1);
         Due.is("n -1", f.chalk(-1, 100), -1);
+        Due.is("n whose double is 2", f.chalk(Integer.MIN_VALUE + 1, 100), -1);
+        Due.is("n whose double is 0", f.chalk(Integer.MIN_VALUE, 100), -1);
         Due.is("what -1", f.chalk(1, -1), -1);
         Due.is("what 1 of 1", f.chalk(1, 1), -1);
         Due.is("what 101", f.chalk(1, 101), -1);

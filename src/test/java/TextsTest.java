@@ -329,6 +329,8 @@ public final class TextsTest {
         Due.is("Y is 0 then", Due.walk(f, 0, 10, "o4,b5", 1), 0);
         Due.is("off the bank", Due.walk(f, 0, 39, "u1", 0), 0);
         Due.is("off the bank's other end", Due.walk(f, 0, 3, "d4", 0), 0);
+        Due.is("along to 39", Due.walk(f, 0, 35, "u4", 2), 39);
+        Due.is("over at X 39", Due.walk(f, 1, 39, "o21", 3), 1);
         Due.is("along to the end", Due.walk(f, 0, 4, "d4", 2), 0);
         Due.is("at once across", Due.walk(f, 1, 0, "o21,u", 3), 1);
         Due.is("the walk ends there", Due.walk(f, 1, 0, "o21,u,u,u", 0), 1);

@@ -193,14 +193,21 @@ public final class WaysTest {
         z.stone(6, 15, 16, 0);
         Due.is("two ways", z.hold(0), 2);
         // Here a third way is found only by giving up a stone of an earlier one for good.
-        SteppingStones w = new SteppingStones();
-        int[][] places = {{3, 17}, {16, 15}, {15, 15}, {5, 10}, {10, 17}, {14, 8}, {10, 12}, {17, 20}, {8, 9}, {1, 16},
-            {19, 19}, {16, 5}, {21, 12}, {5, 8}, {21, 18}, {3, 3}, {7, 17}, {9, 13}, {2, 6}, {20, 9}, {8, 3}, {2, 2}};
+        Due.is("three ways", holdOf(6, new int[][] {{3, 17}, {16, 15}, {15, 15}, {5, 10}, {10, 17}, {14, 8}, {10, 12},
+            {17, 20}, {8, 9}, {1, 16}, {19, 19}, {16, 5}, {21, 12}, {5, 8}, {21, 18}, {3, 3}, {7, 17}, {9, 13}, {2, 6},
+            {20, 9}, {8, 3}, {2, 2}}), 3);
+        // And here the part that is given up leads to stone 0.
+        Due.is("three by 7", holdOf(7, new int[][] {{2, 7}, {1, 17}, {3, 19}, {2, 15}, {3, 14}, {2, 10}, {0, 20}, {0, 12},
+            {1, 7}, {3, 3}, {0, 4}, {4, 1}, {2, 14}}), 3);
+    }
+
+    private static int holdOf(int stride, int[][] places) {
+        SteppingStones f = new SteppingStones();
+        f.person(0, stride);
         for (int i = 0; i < places.length; i++) {
-            w.stone(i, places[i][0], places[i][1], 0);
+            f.stone(i, places[i][0], places[i][1], 0);
         }
-        w.person(0, 6);
-        Due.is("three ways", w.hold(0), 3);
+        return f.hold(0);
     }
 
     private static void oneMore() {
@@ -233,6 +240,15 @@ public final class WaysTest {
         edge.person(1, 19);
         edge.take(0);
         Due.is("Y 2 is the lowest by 19", edge.oneMore(1, 1), 2);
+        for (int y = 1; y < 20; y++) {
+            edge.stone(y, 3, y, 0);
+        }
+        edge.person(2, 1);
+        Due.is("Y 20 is all that is wanting", edge.oneMore(2, 1), 20);
+        Due.is("at X 3", edge.oneMore(2, 0), 3);
+        for (int y = 1; y < 20; y++) {
+            edge.take(y);
+        }
         edge.person(1, 20);
         Due.is("Y 1 is the lowest by 20", edge.oneMore(1, 1), 1);
     }
