@@ -52,6 +52,14 @@ final class Due {
         return ford.walk(p, x, text(ford, text), what);
     }
 
+    static int chalk(SteppingStones ford, int what, int... places) {
+        return ford.chalk(bytes(ford, places) / 2, what);
+    }
+
+    static int letters(SteppingStones ford, int what, int... weights) {
+        return ford.letters(bytes(ford, weights), what);
+    }
+
     static void end() {
         System.out.println(asked + " answers asked, " + wrong + " of them wrong");
         if (wrong != 0 || asked == 0) {

@@ -11,36 +11,31 @@ public final class PuzzlesTest {
         Due.end();
     }
 
-    private static int chalk(SteppingStones f, int what, int... places) {
-        Due.bytes(f, places);
-        return f.chalk(places.length / 2, what);
-    }
-
     private static void chalk() {
         SteppingStones f = new SteppingStones();
         f.stone(3, 10, 10, 0);
         f.stone(5, 20, 10, 0);
         f.stone(8, 10, 12, 0);
         f.under(5, true);
-        Due.is("one", chalk(f, 100, 12, 13), 5);
-        Due.is("of one", chalk(f, 0, 12, 13), 3);
-        Due.is("the two lowest", chalk(f, 100, 10, 12, 10, 10), 12);
-        Due.is("first place", chalk(f, 0, 10, 12, 10, 10), 3);
-        Due.is("second place", chalk(f, 1, 10, 12, 10, 10), 5);
-        Due.is("three", chalk(f, 100, 10, 12, 10, 10, 20, 10), 0);
-        Due.is("who was first", chalk(f, 0, 10, 12, 10, 10, 20, 10), 8);
-        Due.is("who was second", chalk(f, 1, 10, 12, 10, 10, 20, 10), 3);
-        Due.is("who was third", chalk(f, 2, 10, 12, 10, 10, 20, 10), 5);
-        Due.is("of like ones the least row", chalk(f, 0, 0, 0, 0, 0, 0, 0), 3);
-        Due.is("and so on", chalk(f, 2, 0, 0, 0, 0, 0, 0), 8);
-        Due.is("Y 0 may be", chalk(f, 100, 10, 0), 10);
-        Due.is("fewer", chalk(f, 100, 1, 1, 1, 1, 1, 1, 1, 1), -2);
+        Due.is("one", Due.chalk(f, 100, 12, 13), 5);
+        Due.is("of one", Due.chalk(f, 0, 12, 13), 3);
+        Due.is("the two lowest", Due.chalk(f, 100, 10, 12, 10, 10), 12);
+        Due.is("first place", Due.chalk(f, 0, 10, 12, 10, 10), 3);
+        Due.is("second place", Due.chalk(f, 1, 10, 12, 10, 10), 5);
+        Due.is("three", Due.chalk(f, 100, 10, 12, 10, 10, 20, 10), 0);
+        Due.is("who was first", Due.chalk(f, 0, 10, 12, 10, 10, 20, 10), 8);
+        Due.is("who was second", Due.chalk(f, 1, 10, 12, 10, 10, 20, 10), 3);
+        Due.is("who was third", Due.chalk(f, 2, 10, 12, 10, 10, 20, 10), 5);
+        Due.is("of like ones the least row", Due.chalk(f, 0, 0, 0, 0, 0, 0, 0), 3);
+        Due.is("and so on", Due.chalk(f, 2, 0, 0, 0, 0, 0, 0), 8);
+        Due.is("Y 0 may be", Due.chalk(f, 100, 10, 0), 10);
+        Due.is("fewer", Due.chalk(f, 100, 1, 1, 1, 1, 1, 1, 1, 1), -2);
         Due.is("empty then", f.count(5), 0);
-        Due.is("X 40", chalk(f, 100, 40, 1), -3);
-        Due.is("Y 21", chalk(f, 100, 1, 21), -3);
-        Due.is("Y 21 of the last", chalk(f, 100, 1, 1, 1, 1, 1, 21), -3);
-        Due.is("X 255", chalk(f, 100, 255, 1), -3);
-        Due.is("39, 20", chalk(f, 100, 39, 20), 39);
+        Due.is("X 40", Due.chalk(f, 100, 40, 1), -3);
+        Due.is("Y 21", Due.chalk(f, 100, 1, 21), -3);
+        Due.is("Y 21 of the last", Due.chalk(f, 100, 1, 1, 1, 1, 1, 21), -3);
+        Due.is("X 255", Due.chalk(f, 100, 255, 1), -3);
+        Due.is("39, 20", Due.chalk(f, 100, 39, 20), 39);
         Due.is("none on the tape", f.chalk(1, 100), -1);
         Due.bytes(f, new int[1]);
         Due.is("n 0", f.chalk(0, 100), -1);
@@ -57,9 +52,9 @@ public final class PuzzlesTest {
         f.stone(11, 2, 1, 0);
         f.stone(12, 3, 1, 0);
         f.check(0);
-        Due.is("seven", chalk(f, 100, 3, 1, 2, 1, 1, 1, 0, 1, 10, 12, 20, 10, 10, 11), 1);
-        Due.is("seventh", chalk(f, 6, 3, 1, 2, 1, 1, 1, 0, 1, 10, 12, 20, 10, 10, 11), 3);
-        Due.is("first of seven", chalk(f, 0, 3, 1, 2, 1, 1, 1, 0, 1, 10, 12, 20, 10, 10, 11), 12);
+        Due.is("seven", Due.chalk(f, 100, 3, 1, 2, 1, 1, 1, 0, 1, 10, 12, 20, 10, 10, 11), 1);
+        Due.is("seventh", Due.chalk(f, 6, 3, 1, 2, 1, 1, 1, 0, 1, 10, 12, 20, 10, 10, 11), 3);
+        Due.is("first of seven", Due.chalk(f, 0, 3, 1, 2, 1, 1, 1, 0, 1, 10, 12, 20, 10, 10, 11), 12);
     }
 
     private static void line() {
@@ -132,25 +127,20 @@ public final class PuzzlesTest {
         Due.is("1", f.shape(3), 1);
     }
 
-    private static int letters(SteppingStones f, int what, int... weights) {
-        Due.bytes(f, weights);
-        return f.letters(weights.length, what);
-    }
-
     private static void letters() {
         SteppingStones f = new SteppingStones();
-        Due.is("alike", letters(f, 0, 5, 4, 3, 2), 0);
-        Due.is("which", letters(f, 1, 5, 4, 3, 2), 9);
-        Due.is("one", letters(f, 0, 200), 200);
-        Due.is("one, which", letters(f, 1, 200), 1);
-        Due.is("of like ones the least", letters(f, 1, 1, 1, 1, 1), 3);
-        Due.is("odd", letters(f, 0, 1, 1, 1), 1);
-        Due.is("odd, the least", letters(f, 1, 1, 1, 1), 1);
-        Due.is("eight", letters(f, 0, 255, 255, 255, 255, 255, 255, 255, 254), 1);
-        Due.is("eight, which", letters(f, 1, 255, 255, 255, 255, 255, 255, 255, 254), 15);
-        Due.is("a great one", letters(f, 0, 3, 255, 4), 248);
-        Due.is("a great one, which", letters(f, 1, 3, 255, 4), 5);
-        Due.is("a weight 0", letters(f, 0, 3, 0), -2);
+        Due.is("alike", Due.letters(f, 0, 5, 4, 3, 2), 0);
+        Due.is("which", Due.letters(f, 1, 5, 4, 3, 2), 9);
+        Due.is("one", Due.letters(f, 0, 200), 200);
+        Due.is("one, which", Due.letters(f, 1, 200), 1);
+        Due.is("of like ones the least", Due.letters(f, 1, 1, 1, 1, 1), 3);
+        Due.is("odd", Due.letters(f, 0, 1, 1, 1), 1);
+        Due.is("odd, the least", Due.letters(f, 1, 1, 1, 1), 1);
+        Due.is("eight", Due.letters(f, 0, 255, 255, 255, 255, 255, 255, 255, 254), 1);
+        Due.is("eight, which", Due.letters(f, 1, 255, 255, 255, 255, 255, 255, 255, 254), 15);
+        Due.is("a great one", Due.letters(f, 0, 3, 255, 4), 248);
+        Due.is("a great one, which", Due.letters(f, 1, 3, 255, 4), 5);
+        Due.is("a weight 0", Due.letters(f, 0, 3, 0), -2);
         Due.is("empty then", f.count(5), 0);
         Due.is("none on the tape", f.letters(1, 0), -1);
         Due.bytes(f, 7, 0);
