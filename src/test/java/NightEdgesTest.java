@@ -12,6 +12,7 @@ public final class NightEdgesTest {
         takenAtTheBound();
         numbers();
         wrapAround();
+        comparisons();
         lettersAtTheirBounds();
         nightModulo100();
         draws();
@@ -19,6 +20,7 @@ public final class NightEdgesTest {
         firstNight();
         firstNightAtTheEnd();
         sixteenRules();
+        manyLaws();
         Due.end();
     }
 
@@ -198,9 +200,26 @@ public final class NightEdgesTest {
         Due.is("-7 by 2", tried(f, "u1([0-7]/2=0-3)", 1, 100), 1);
         Due.is("-7 modulo 2", tried(f, "u1([0-7]%2=0-1)", 1, 100), 1);
         Due.is("7 modulo -2", tried(f, "u1(7%[0-2]=1)", 1, 100), 1);
+        Due.is("7 by 1", tried(f, "u1(7/1=7&7%1=0)", 1, 100), 1);
+        Due.is("the least by 1", tried(f, "u1([" + least + "]/1=" + least + ")", 1, 100), 1);
         Due.is("by 0 is refused, of the least, too", tried(f, "u1(" + least + "/0=0|1=1);u2(1=1)", 1, 100), 2);
         Due.is("modulo 0 is refused", tried(f, "u1(0%0=0|1=1);u2(1=1)", 1, 100), 2);
         Due.is("what comes to 0 is 0", tried(f, "u1(1/[65536*65536]=0|1=1);u2(1=1)", 1, 100), 2);
+    }
+
+    /** Less, more and alike, each of them, and each with a ! ahead: just below, at and just above. */
+    private static void comparisons() {
+        char[] signs = {'<', '=', '>'};
+        for (int left = 0; left < 3; left++) {
+            for (int sign = 0; sign < 3; sign++) {
+                boolean holds = Integer.compare(left, 1) == sign - 1;
+                String test = left + "" + signs[sign] + "1";
+                Due.is(test, tried(one(0, 1), "u1(" + test + ")", 1, 100), holds ? 1 : 0);
+                Due.is("!" + test, tried(one(0, 1), "u1(!" + test + ")", 1, 100), holds ? 0 : 1);
+                Due.is("!!" + test, tried(one(0, 1), "u1(!!" + test + ")", 1, 100), holds ? 1 : 0);
+                Due.is("!(" + test + ")", tried(one(0, 1), "u1(!(" + test + "))", 1, 100), holds ? 0 : 1);
+            }
+        }
     }
 
     private static void lettersAtTheirBounds() {
@@ -355,5 +374,28 @@ public final class NightEdgesTest {
         Due.is("the 16th is an x", tried(f, "x(0=1);".repeat(15) + "x(1=1)", 1, 2), 1);
         Due.is("the first is an x", tried(f, "x(1=1);" + "x(0=1);".repeat(14) + "x(0=1)", 1, 2), 1);
         Due.is("none", tried(f, "x(0=1);".repeat(15) + "u1(0=1)", 1, 0), 0);
+    }
+
+    /** In place of the one before: nothing of any earlier LAW is left, however many there were. */
+    private static void manyLaws() {
+        SteppingStones f = one(0, 1);
+        Due.law(f, "u1(1=1);u9(1=1)");
+        Due.law(f, "u1(1=1);x(1=1)");
+        Due.is("the rules of an earlier law are gone", tried(f, "o1(1+[1+[1+[1+[1+[1+1]]]]]>0)", 1, 100), 0);
+        Due.is("the one that rules does", f.tried(1, 200), 2);
+        Due.is("the x of an earlier one is gone", tried(f, "o1(1+[1+[1+[1+[1+[1+1]]]]]>0)", 1, 2), 0);
+        for (int k = 0; k < 12; k++) {
+            int far = 1 + k % 9;
+            String law = "u0(" + "0+".repeat(100) + "0=1);u" + far + "(" + "1+".repeat(10) + "0=10)";
+            Due.is("law " + k, Due.law(f, law), 2);
+            Due.is("by law " + k, f.tried(1, 100), far);
+        }
+        Due.law(f, "u1(1=1);".repeat(15) + "x(1=1)");
+        Due.law(f, "u2(1=1);".repeat(15) + "x(1=1)");
+        Due.law(f, "o3(1=1)");
+        Due.is("one rule in place of sixteen", f.count(4), 1);
+        Due.is("no u", f.tried(1, 100), 0);
+        Due.is("no x", f.tried(1, 2), 0);
+        Due.is("o", f.tried(1, 200), 4);
     }
 }

@@ -376,6 +376,15 @@ public final class WayEdgesTest {
             f.under(gone, true);
         }
         Due.is("none is dry", f.hold(4), 0);
+        for (int first = 0; first < 40; first++) {
+            SteppingStones row = ford(7);
+            row.stone(first, 0, 7, 0);
+            row.stone((first + 1) % 40, 0, 14, 0);
+            Due.is("a row from " + first, row.hold(0), 1);
+            row.stone((first + 2) % 40, 39, 7, 0);
+            row.stone((first + 3) % 40, 39, 14, 0);
+            Due.is("two rows from " + first, row.hold(0), 2);
+        }
         Due.is("21 can't be held, of none dry", f.hold(5), -2);
     }
 
