@@ -246,6 +246,9 @@ public final class FaultsTest {
     private static void walkJustHolds() {
         walk("u", 1);
         walk(hops(60), 1);
+        walk("ud".repeat(30), 1);
+        walk("uo".repeat(30), 0);
+        walk("u,".repeat(29) + "ud", 19);
         walk("((" + hops(49) + ")x9,u0)x6", 60);
         walk("((u0)x9,u0)x6", 60);
         walk("(u0)x2", 2);

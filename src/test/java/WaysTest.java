@@ -314,6 +314,10 @@ public final class WaysTest {
         f.stone(9, 30, 18, 0);
         Due.is("over the far bank", f.meet(0, 1, 0), 6);
         Due.is("over the far bank, stone", f.meet(0, 1, 1), 9);
+        f.person(4, 3);
+        f.stone(8, 30, 3, 0);
+        Due.is("over the near bank", f.meet(4, 0, 0), 6);
+        Due.is("over the near bank, stone", f.meet(4, 0, 1), 8);
     }
 
     private static void market() {
