@@ -1400,15 +1400,14 @@ public final class SteppingStones {
         static final int SIDES = 80;
         static final int START = -2;
 
+        /** The stone (or NEAR) from which a way comes on each stone; NONE: no way does. */
         final int[] before = new int[STONES];
-        final int[] behind = new int[STONES];
         final int[] cameFrom = new int[SIDES];
         final int[] queue = new int[SIDES];
         int tail = 0;
 
         int fewest(Ford ford, int stride) {
             Arrays.fill(before, NONE);
-            Arrays.fill(behind, NONE);
             for (int ways = 0; ways < STONES; ways++) {
                 int last = search(ford, stride);
                 if (last == NONE) {
@@ -1424,7 +1423,7 @@ public final class SteppingStones {
             Arrays.fill(cameFrom, NONE);
             tail = 0;
             for (int i = 0; i < STONES; i++) {
-                if (before[i] != NEAR && ford.isStep(NEAR, i, stride)) {
+                if (ford.isStep(NEAR, i, stride)) {
                     reach(i, START);
                 }
             }
@@ -1454,27 +1453,29 @@ public final class SteppingStones {
             if (before[i] == NONE) {
                 reach(i + STONES, i);
             } else if (before[i] < STONES) {
-                // Another way comes here: it may be led elsewhere from the stone ahead.
+                // Another way comes here from a stone: from that one it may be led elsewhere.
                 reach(before[i] + STONES, i);
             }
         }
 
-        /** Whether one steps from here to the far bank, by no way that is there already. */
+        /**
+         * Whether one steps from here to the far bank. If a way leaves here already, the search came from the stone
+         * that this way goes to: so that one is neither the bank nor met for the first time.
+         */
         boolean leave(Ford ford, int stride, int i) {
             if (i < 0 || i >= STONES) {
                 return false;
             }
-            if (behind[i] != FAR && ford.isStep(i, FAR, stride)) {
+            if (ford.isStep(i, FAR, stride)) {
                 return true;
             }
             for (int to = 0; to < STONES; to++) {
-                if (behind[i] != to && ford.isStep(i, to, stride)) {
+                if (ford.isStep(i, to, stride)) {
                     reach(to, i + STONES);
                 }
             }
-            if (before[i] != NONE) {
-                reach(i, i + STONES);
-            }
+            // A way that comes through here may also be given up as far back as this.
+            reach(i, i + STONES);
             return false;
         }
 
@@ -1492,19 +1493,10 @@ public final class SteppingStones {
             }
         }
 
-        /** Notes that the new way leaves stone i for a stone or the far bank; for i itself: that i is given up. */
+        /** Notes that the new way leaves stone i for another one; for i itself: that i is given up. */
         void join(int i, int to) {
-            if (i < 0 || i >= STONES) {
-                return;
-            }
-            if (to == i) {
-                before[i] = NONE;
-                behind[i] = NONE;
-                return;
-            }
-            behind[i] = to;
             if (to >= 0 && to < STONES) {
-                before[to] = i;
+                before[to] = to == i ? NONE : i;
             }
         }
     }

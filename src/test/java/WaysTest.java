@@ -192,6 +192,19 @@ public final class WaysTest {
         z.take(1);
         z.stone(6, 15, 16, 0);
         Due.is("two ways", z.hold(0), 2);
+        // The shortest way (0, 1, 2) must give up its middle, whichever numbers the stones have.
+        int[] x = {10, 10, 13, 5, 3, 3, 17, 17};
+        int[] y = {6, 12, 16, 8, 13, 19, 6, 12};
+        for (int first = 0; first < 40; first++) {
+            SteppingStones m = new SteppingStones();
+            m.person(0, 6);
+            for (int k = 0; k < x.length; k++) {
+                m.stone((first + k) % 40, x[k], y[k], 0);
+            }
+            Due.is("without the middle, from " + first, m.hold(0), 2);
+            m.under((first + 4) % 40, true);
+            Due.is("one way or the other, from " + first, m.hold(0), 1);
+        }
         // Here a third way is found only by giving up a stone of an earlier one for good.
         Due.is("three ways", holdOf(6, new int[][] {{3, 17}, {16, 15}, {15, 15}, {5, 10}, {10, 17}, {14, 8}, {10, 12},
             {17, 20}, {8, 9}, {1, 16}, {19, 19}, {16, 5}, {21, 12}, {5, 8}, {21, 18}, {3, 3}, {7, 17}, {9, 13}, {2, 6},
@@ -199,6 +212,12 @@ public final class WaysTest {
         // And here the part that is given up leads to stone 0.
         Due.is("three by 7", holdOf(7, new int[][] {{2, 7}, {1, 17}, {3, 19}, {2, 15}, {3, 14}, {2, 10}, {0, 20}, {0, 12},
             {1, 7}, {3, 3}, {0, 4}, {4, 1}, {2, 14}}), 3);
+        // A stone (1) that the second way makes the first one give up is free again for a third one.
+        Due.is("given up and taken again", holdOf(6, new int[][] {{21, 6}, {20, 11}, {17, 15}, {26, 9}, {26, 14}, {29, 16},
+            {14, 4}, {14, 10}, {39, 3}, {38, 8}, {32, 8}, {31, 8}, {11, 13}, {7, 9}, {4, 11}, {0, 14}, {0, 20}}), 3);
+        // A way that only turns back along an earlier one is not one more.
+        Due.is("turned back", holdOf(6, new int[][] {{14, 6}, {23, 12}, {19, 16}, {9, 7}, {11, 12}, {7, 16}, {20, 3},
+            {17, 11}, {35, 4}, {32, 7}, {28, 8}, {25, 8}, {26, 14}, {30, 14}, {33, 13}, {39, 13}, {38, 18}}), 2);
     }
 
     private static int holdOf(int stride, int[][] places) {
