@@ -1,6 +1,9 @@
 import java.util.Random;
 
-/** Runs of drawn calls on the class and on the slow model: both must answer alike. The seeds are fixed. */
+/**
+ * Runs of drawn calls on the class and on the slow model: both must answer alike. The seeds are fixed. Two runs go on at
+ * once, call by call, since all memory is the ford's own.
+ */
 public final class ModelTest {
     private static final int RUNS = 200;
     private static final int CALLS = 400;
@@ -9,23 +12,33 @@ public final class ModelTest {
     private final SteppingStones real = new SteppingStones();
     private final Model model = new Model();
     private final String run;
+    private final int width;
 
     private ModelTest(int seed) {
         random = new Random(seed);
         run = "run " + seed + ": ";
+        width = 3 + random.nextInt(37);
     }
 
     public static void main(String[] args) {
         int from = args.length > 0 ? Integer.parseInt(args[0]) : 0;
         int runs = args.length > 1 ? Integer.parseInt(args[1]) : RUNS;
-        for (int seed = from; seed < from + runs; seed++) {
-            new ModelTest(seed).play();
+        for (int seed = from; seed < from + runs; seed += 2) {
+            ModelTest one = new ModelTest(seed);
+            ModelTest other = new ModelTest(seed + 1);
+            one.begin();
+            other.begin();
+            for (int k = 0; k < CALLS; k++) {
+                one.call(one.random.nextInt(33));
+                other.call(other.random.nextInt(33));
+            }
+            one.end();
+            other.end();
         }
         Due.end();
     }
 
-    private void play() {
-        int width = 3 + random.nextInt(37);
+    private void begin() {
         for (int p = 0; p < 8; p++) {
             if (random.nextInt(4) > 0) {
                 int stride = random.nextInt(5) == 0 ? 1 + random.nextInt(30) : 2 + random.nextInt(8);
@@ -34,11 +47,11 @@ public final class ModelTest {
         }
         int start = random.nextInt(41);
         for (int k = 0; k < start; k++) {
-            lay(width);
+            lay();
         }
-        for (int k = 0; k < CALLS; k++) {
-            call(random.nextInt(33), width);
-        }
+    }
+
+    private void end() {
         for (int i = 0; i < 40; i++) {
             for (int what = 0; what < 5; what++) {
                 same("at the end stoneIs " + i + " " + what, real.stoneIs(i, what), model.stoneIs(i, what));
@@ -72,7 +85,7 @@ public final class ModelTest {
         return least + random.nextInt(most - least + 1);
     }
 
-    private void lay(int width) {
+    private void lay() {
         int i = number(0, 39);
         int x = number(0, width - 1);
         int y = number(1, 20);
@@ -176,7 +189,7 @@ public final class ModelTest {
         return spoilt.length() > 240 ? spoilt.substring(0, 240) : spoilt;
     }
 
-    private String notebookText(int width) {
+    private String notebookText() {
         StringBuilder text = new StringBuilder();
         int lines = random.nextInt(10) == 0 ? 39 + random.nextInt(3) : 1 + random.nextInt(25);
         for (int k = 0; k < lines; k++) {
@@ -233,9 +246,9 @@ public final class ModelTest {
         return text.toString();
     }
 
-    private void call(int which, int width) {
+    private void call(int which) {
         if (which < 12) {
-            change(which, width);
+            change(which);
         } else if (which < 24) {
             ask(which);
         } else {
@@ -243,11 +256,11 @@ public final class ModelTest {
         }
     }
 
-    private void change(int which, int width) {
+    private void change(int which) {
         switch (which) {
             case 0:
             case 1:
-                lay(width);
+                lay();
                 break;
             case 2: {
                 int i = number(0, 39);
@@ -275,7 +288,7 @@ public final class ModelTest {
                 break;
             }
             case 7: {
-                String text = notebookText(width);
+                String text = notebookText();
                 fill(text);
                 int n = length(text);
                 same("notebook " + n + " " + text, real.notebook(n), model.notebook(n));
