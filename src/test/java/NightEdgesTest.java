@@ -13,6 +13,8 @@ public final class NightEdgesTest {
         numbers();
         wrapAround();
         comparisons();
+        manyTests();
+        manyTerms();
         lettersAtTheirBounds();
         nightModulo100();
         draws();
@@ -220,6 +222,42 @@ public final class NightEdgesTest {
                 Due.is("!(" + test + ")", tried(one(0, 1), "u1(!(" + test + "))", 1, 100), holds ? 0 : 1);
             }
         }
+    }
+
+    /** As many TESTS as a law has room for: all must hold, or one must; the last counts like the first. */
+    private static void manyTests() {
+        for (int tests = 1; tests <= 58; tests++) {
+            String ahead = "1=1&".repeat(tests - 1);
+            Due.is(tests + " TESTS, all hold", tried(one(0, 1), "u1(" + ahead + "1=1)", 1, 100), 1);
+            Due.is(tests + " TESTS, but for the last", tried(one(0, 1), "u1(" + ahead + "1=0)", 1, 100), 0);
+            String none = "1=0|".repeat(tests - 1);
+            Due.is(tests + " PARTS, the last holds", tried(one(0, 1), "u1(" + none + "1=1)", 1, 100), 1);
+            Due.is(tests + " PARTS, none holds", tried(one(0, 1), "u1(" + none + "1=0)", 1, 100), 0);
+        }
+        String two = "(1=1&1=1)&";
+        Due.is("(C)s", tried(one(0, 1), "u1(" + two.repeat(22) + "1=1)", 1, 100), 1);
+        Due.is("!TESTs", tried(one(0, 1), "u1(" + "!1=0&".repeat(45) + "1=1)", 1, 100), 1);
+        Due.is("by turns", tried(one(0, 1), "u1(" + "1=1&1=0|".repeat(28) + "1=1)", 1, 100), 1);
+    }
+
+    /** As many TERMS and FACTORS as a law has room for, and the deepest [ on both sides of a TEST. */
+    private static void manyTerms() {
+        for (int terms = 1; terms <= 116; terms += 5) {
+            String sum = "1+".repeat(terms - 1) + "1";
+            Due.is(terms + " TERMS", tried(one(0, 1), "u1(" + sum + "=" + terms + ")", 1, 100), 1);
+            Due.is("and not one more", tried(one(0, 1), "u1(" + sum + "=" + (terms + 1) + ")", 1, 100), 0);
+            String product = "7*1/1%9*".repeat(Math.min(terms, 28) - 1) + "7";
+            int due = 7;
+            for (int k = 1; k < Math.min(terms, 28); k++) {
+                due = due % 9 * 7;
+            }
+            Due.is(product, tried(one(0, 1), "u1(" + product + "=" + due + ")", 1, 100), 1);
+        }
+        String deep = "1+1*[".repeat(5) + "1+1*2" + "]".repeat(5);
+        Due.is("deep on both sides", tried(one(0, 1), "u1(" + deep + "=" + deep + ")", 1, 100), 1);
+        Due.is("deep, and not alike", tried(one(0, 1), "u1(" + deep + "=" + deep + "+1)", 1, 100), 0);
+        Due.is("deep, behind TESTS", tried(one(0, 1), "u1(" + "1=1&".repeat(49) + deep + "=8)", 1, 100), 1);
+        Due.is("deep, behind TESTS, not 7", tried(one(0, 1), "u1(" + "1=1&".repeat(49) + deep + "=7)", 1, 100), 0);
     }
 
     private static void lettersAtTheirBounds() {
